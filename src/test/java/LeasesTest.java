@@ -8,6 +8,7 @@ public final class LeasesTest {
         leaseAfterDays();
         days();
         allTightSpansAreBought();
+        fourLeases();
         dayRefusals();
         leasesOfAll();
         leastTakesDearerAndCheaper();
@@ -84,6 +85,22 @@ public final class LeasesTest {
         due("13: covered", x.day(3), 0);
         due("13: four SPANS", x.leases(4), 4);
         due("13: a SPAN that ends beyond the days", x.day(127), 4);
+    }
+
+    private static void fourLeases() {
+        BuyAsAsked x = new BuyAsAsked();
+        x.lease(1, 2);
+        x.lease(2, 3);
+        x.lease(4, 5);
+        x.lease(64, 6);
+        int[] paid = {2, 3, 2 + 5, 0, 6};
+        int[] best = {2, 3, 5, 5, 6};
+        for (int d = 0; d < paid.length; d++) {
+            due("13: day " + d, x.day(d), paid[d]);
+            due("14: BEST to day " + d, x.leases(2), best[d]);
+        }
+        due("15: by the longest", x.covered(63), 1);
+        due("15: no further", x.covered(64), 0);
     }
 
     private static void dayRefusals() {

@@ -65,12 +65,17 @@ public final class SheetsTest {
         due("2: BAD LANE goes ahead of SIZE", x.sheet(0, 3, -1), BAD);
         due("2: what is found changes nothing", x.drop(0), 0);
         due("2: what is refused changes nothing", x.drop(7), 60);
+        for (int i = 0; i < 3; i++) {
+            checkLaidAnew(i);
+        }
+    }
+
+    private static void checkLaidAnew(int i) {
+        BuyAsAsked x = new BuyAsAsked();
         x.sheet(1, 2, 3);
-        x.set(1, 2, 9);
+        x.set(1, i, 5);
         due("2: in place of what is there", x.sheet(1, 2, 3), 3);
-        x.sheet(2, 2, 3);
-        x.set(2, 2, 5);
-        due("2: ITEMS are 0 at first", demandOfItem(x, 1, 2), 0);
+        due("2: ITEM " + i + " is 0 at first", demandOfItem(x, 1, i), 0);
     }
 
     /** Which THING an ITEM of an int SHEET names, found by the price that its DEMAND raises; -1 for none. */
