@@ -1,150 +1,442 @@
 /** Promises 20 to 25. */
 public final class AskedTest {
-    private static final int BAD = Checks.BAD, KIND = Checks.KIND, NONE = Checks.NONE;
+    private static final int BAD = Checks.BAD, STATE = Checks.STATE, FULL = Checks.FULL, NONE = Checks.NONE;
+    private static final int KIND = Checks.KIND, NULL = Checks.NULL;
+    private static final int LEAST = Checks.LEAST, MOST = Checks.MOST;
     private static final int OPEN_SET = 0, NEAR_SET = 1, OWN_SET = 2;
 
     public static void main(String[] args) {
-        kinds();
-        nearAtTwice();
-        takenAs();
-        asks();
-        traces();
-        askRefusals();
-        counts();
-        statusOfAs();
-        Checks.end("AskedTest");
+        Cases.run(AskedTest.class, 20, 25);
     }
 
-    private static void due(String call, long got, long want) {
-        Checks.due(call, got, want);
+    private static void due(long got, long want) {
+        Cases.due(got, want);
     }
 
-    /** Three SETS: one is OPEN (FILLED 4 of 20), one NEAR (4 of 7), one OWN (4 of 4). */
-    private static BuyAsAsked withKinds() {
+    /** A SET of a cost, FILLED that far and not bought; SET 0 is the one bought for it. */
+    private static BuyAsAsked filled(int filled, int cost) {
         BuyAsAsked x = new BuyAsAsked();
-        x.offer(20, 0b111);
-        x.offer(7, 0b11);
-        x.offer(4, 0b1001);
+        x.offer(filled, 1);
+        x.offer(cost, 3);
         x.demand(0);
         return x;
     }
 
-    private static void kinds() {
-        BuyAsAsked x = withKinds();
-        due("20: OPEN", x.kind(OPEN_SET), 1);
-        due("20: NEAR", x.kind(NEAR_SET), 2);
-        due("20: OWN", x.kind(OWN_SET), 3);
-        due("20: below", x.kind(-1), BAD);
-        due("20: no such SET", x.kind(3), BAD);
-        due("20: far above", x.kind(Checks.MOST), BAD);
+    // ---- promise 20
+
+    static void p20SetBelow0IsBad() {
+        Cases.bad(BuyAsAsked::kind, -1, LEAST);
     }
 
-    private static void nearAtTwice() {
+    static void p20NoSuchSetIsBad() {
+        Cases.bad(BuyAsAsked::kind, 5, 9, 10, MOST);
+    }
+
+    static void p20AtFirstItIsOpen() {
+        BuyAsAsked x = new BuyAsAsked();
+        x.offer(1, 1);
+        x.offer(1000, 4095);
+        due(x.kind(0), 1);
+        due(x.kind(1), 1);
+    }
+
+    static void p20TwiceFilledIsItsCost() {
+        due(filled(5, 10).kind(1), 2);
+        due(filled(500, 1000).kind(1), 2);
+        due(filled(1, 2).kind(1), 2);
+    }
+
+    static void p20TwiceFilledIsOneLess() {
+        due(filled(5, 11).kind(1), 1);
+        due(filled(1, 3).kind(1), 1);
+        due(filled(499, 999).kind(1), 1);
+    }
+
+    static void p20TwiceFilledIsOneMore() {
+        due(filled(5, 9).kind(1), 2);
+    }
+
+    static void p20OneShortOfTightIsNear() {
+        due(filled(999, 1000).kind(1), 2);
+    }
+
+    static void p20BoughtIsOwn() {
+        due(filled(5, 5).kind(1), 3);
+        due(filled(5, 9).kind(0), 3);
+        BuyAsAsked x = filled(5, 9);
+        x.demand(1);
+        due(x.kind(1), 3);
+    }
+
+    // ---- promise 21
+
+    static void p21SetBelow0IsBad() {
+        Cases.bad((x, n) -> x.as(n, 0), -1, LEAST);
+    }
+
+    static void p21NoSuchSetIsBad() {
+        Cases.bad((x, n) -> x.as(n, 0), 5, 9, 10, MOST);
+    }
+
+    static void p21KindBelow0IsBad() {
+        Cases.bad((x, n) -> x.as(0, n), -1, LEAST);
+    }
+
+    static void p21KindAbove3IsBad() {
+        Cases.bad((x, n) -> x.as(0, n), 4, 5, MOST);
+    }
+
+    static void p21BadGoesAheadOfKind() {
+        Cases.bad((x, n) -> x.as(n, 3), -1, 5);
+    }
+
+    private static void taken(int set, int kind, int cost) {
+        BuyAsAsked x = Cases.inUse();
+        Cases.due("as(" + set + ", " + kind + ")", x.as(set, kind), cost);
+        due(x.status(), 0);
+    }
+
+    private static void isNot(int set, int kind) {
+        Cases.refused(Cases::inUse, x -> x.as(set, kind), KIND);
+    }
+
+    static void p21AllAreSets() {
+        taken(OPEN_SET, 0, 20);
+        taken(NEAR_SET, 0, 7);
+        taken(OWN_SET, 0, 4);
+    }
+
+    static void p21AnOpenOne() {
+        taken(OPEN_SET, 1, 20);
+        isNot(OPEN_SET, 2);
+        isNot(OPEN_SET, 3);
+    }
+
+    static void p21ANearOneIsOpenToo() {
+        taken(NEAR_SET, 1, 7);
+        taken(NEAR_SET, 2, 7);
+        isNot(NEAR_SET, 3);
+    }
+
+    static void p21AnOwnOneIsNeitherOpenNorNear() {
+        isNot(OWN_SET, 1);
+        isNot(OWN_SET, 2);
+        taken(OWN_SET, 3, 4);
+    }
+
+    // ---- promise 22
+
+    static void p22SetBelow0IsBad() {
+        Cases.bad((x, n) -> x.ask(n, 0), -1, LEAST);
+    }
+
+    static void p22NoSuchSetIsBad() {
+        Cases.bad((x, n) -> x.ask(n, 0), 5, 9, 10, MOST);
+    }
+
+    static void p22AskBelow0IsBad() {
+        Cases.bad((x, n) -> x.ask(0, n), -1, LEAST);
+    }
+
+    static void p22AskAbove1IsBad() {
+        Cases.bad((x, n) -> x.ask(0, n), 2, 3, MOST);
+    }
+
+    static void p22WorthOfAnOpenOne() {
+        due(Cases.inUse().ask(OPEN_SET, 0), 20 - 4);
+    }
+
+    static void p22WorthOfOneThatIsNotFilled() {
+        BuyAsAsked x = new BuyAsAsked();
+        x.offer(1000, 1);
+        due(x.ask(0, 0), 1000);
+    }
+
+    static void p22WorthOfANearOne() {
+        due(Cases.inUse().ask(NEAR_SET, 0), 7 - 4 + 2 + 100);
+        due(filled(5, 10).ask(1, 0), 10 - 5 + 2 + 100);
+    }
+
+    static void p22WorthOfAnOwnOne() {
+        due(Cases.inUse().ask(OWN_SET, 0), 2 * 4);
+        due(filled(1000, 1000).ask(1, 0), 2000);
+    }
+
+    static void p22MarkOfAnOpenOne() {
+        due(Cases.inUse().ask(OPEN_SET, 1), 3);
+    }
+
+    static void p22MarkOfOneThingAndOfAll() {
+        BuyAsAsked x = new BuyAsAsked();
+        x.offer(9, 1 << 11);
+        x.offer(9, 4095);
+        due(x.ask(0, 1), 1);
+        due(x.ask(1, 1), 12);
+    }
+
+    static void p22MarkOfANearOne() {
+        due(Cases.inUse().ask(NEAR_SET, 1), 2 + 100);
+    }
+
+    static void p22MarkOfAnOwnOne() {
+        due(Cases.inUse().ask(OWN_SET, 1), 2 + 2 * 4);
+    }
+
+    static void p22ItIsAskedByWhatItIsNow() {
         BuyAsAsked x = new BuyAsAsked();
         x.offer(5, 1);
-        x.offer(10, 1);
-        x.offer(11, 1);
-        due("20: at first", x.kind(1), 1);
+        x.offer(10, 3);
+        due(x.ask(1, 1), 2);
         x.demand(0);
-        due("20: twice is its cost", x.kind(1), 2);
-        due("20: twice is less", x.kind(2), 1);
-        due("20: all of it", x.kind(0), 3);
+        due(x.ask(1, 1), 102);
+        x.demand(1);
+        due(x.ask(1, 1), 2 + 20);
     }
 
-    private static void takenAs() {
-        BuyAsAsked x = withKinds();
-        int[] costs = {20, 7, 4};
-        boolean[][] is = {{true, true, false, false}, {true, true, true, false}, {true, false, false, true}};
-        for (int set = 0; set < 3; set++) {
-            for (int kind = 0; kind < 4; kind++) {
-                due("21: as(" + set + ", " + kind + ")", x.as(set, kind), is[set][kind] ? costs[set] : KIND);
+    static void p22TheTraceIsEmptyAheadOfIt() {
+        BuyAsAsked x = Cases.inUse();
+        trace(x, NEAR_SET, 0, 12, 11, 10, 21, 20);
+        trace(x, OPEN_SET, 1, 20);
+        trace(x, OPEN_SET, 1, 20);
+    }
+
+    static void p22WhereItIsRefusedTheTraceStays() {
+        int[][] refused = {{-1, 0}, {5, 0}, {0, -1}, {0, 2}};
+        for (int[] call : refused) {
+            BuyAsAsked x = Cases.inUse();
+            x.ask(OWN_SET, 0);
+            due(x.ask(call[0], call[1]), BAD);
+            due(x.trace(0), 13);
+            due(x.trace(1), 10);
+            due(x.trace(2), NONE);
+        }
+    }
+
+    static void p22NothingElseChanges() {
+        BuyAsAsked x = Cases.inUse();
+        x.ask(OWN_SET, 1);
+        due(x.status(), 5);
+        due(x.covers(0), 4);
+        due(x.covers(1), 4);
+        due(x.kind(OWN_SET), 3);
+    }
+
+    // ---- promise 23
+
+    private static void trace(BuyAsAsked x, int set, int what, int... want) {
+        x.ask(set, what);
+        for (int i = 0; i < 18; i++) {
+            Cases.due("trace(" + i + ")", x.trace(i), i < want.length ? want[i] : NONE);
+        }
+    }
+
+    static void p23BeforeAnAskItIsEmpty() {
+        BuyAsAsked x = new BuyAsAsked();
+        for (int i = 0; i < 18; i++) {
+            due(x.trace(i), NONE);
+        }
+    }
+
+    static void p23OfWorth() {
+        trace(Cases.inUse(), OPEN_SET, 0, 11, 10);
+        trace(Cases.inUse(), NEAR_SET, 0, 12, 11, 10, 21, 20);
+        trace(Cases.inUse(), OWN_SET, 0, 13, 10);
+    }
+
+    static void p23OfMark() {
+        trace(Cases.inUse(), OPEN_SET, 1, 20);
+        trace(Cases.inUse(), NEAR_SET, 1, 21, 20);
+        trace(Cases.inUse(), OWN_SET, 1, 22, 20, 13, 10);
+    }
+
+    static void p23BelowTheFirstIsNone() {
+        BuyAsAsked x = Cases.inUse();
+        due(x.trace(-1), NONE);
+        due(x.trace(LEAST), NONE);
+        due(x.trace(BAD), NONE);
+    }
+
+    static void p23BehindTheLastIsNone() {
+        BuyAsAsked x = Cases.inUse();
+        due(x.trace(4), 20);
+        due(x.trace(5), NONE);
+        due(x.trace(15), NONE);
+        due(x.trace(16), NONE);
+        due(x.trace(MOST), NONE);
+    }
+
+    static void p23OtherCallsLeaveIt() {
+        BuyAsAsked x = Cases.inUse();
+        x.kind(OPEN_SET);
+        x.as(OPEN_SET, 1);
+        x.demand(1);
+        x.told(OPEN_SET, 2);
+        due(x.trace(0), 12);
+        due(x.trace(4), 20);
+    }
+
+    // ---- promise 24
+
+    static void p24WhatBelow0IsBad() {
+        Cases.bad(BuyAsAsked::count, -1, LEAST);
+    }
+
+    static void p24WhatAbove6IsBad() {
+        Cases.bad(BuyAsAsked::count, 7, 8, MOST);
+    }
+
+    static void p24EachOfThem() {
+        BuyAsAsked x = Cases.inUse();
+        int[] want = {3, 5, 1, 1, 2, 5, 3};
+        for (int what = 0; what < want.length; what++) {
+            due(x.count(what), want[what]);
+        }
+    }
+
+    static void p24AllAtTheirMost() {
+        BuyAsAsked x = new BuyAsAsked();
+        for (int k = 0; k < 10; k++) {
+            x.sheet(k, 0, 0);
+            x.offer(5, 4095);
+            x.lease(1 << k, 1);
+            x.site();
+            for (int s = 0; s < k; s++) {
+                x.way(k, s, 1);
             }
         }
-        due("21: SET below", x.as(-1, 0), BAD);
-        due("21: no such SET", x.as(3, 0), BAD);
-        due("21: KIND below", x.as(0, -1), BAD);
-        due("21: KIND above", x.as(0, 4), BAD);
-        due("21: far below", x.as(0, Checks.LEAST), BAD);
-    }
-
-    private static void asks() {
-        BuyAsAsked x = withKinds();
-        due("22: WORTH of an OPEN one", x.ask(OPEN_SET, 0), 20 - 4);
-        due("22: MARK of an OPEN one", x.ask(OPEN_SET, 1), 3);
-        due("22: WORTH of a NEAR one", x.ask(NEAR_SET, 0), 7 - 4 + 102);
-        due("22: MARK of a NEAR one", x.ask(NEAR_SET, 1), 102);
-        due("22: WORTH of an OWN one", x.ask(OWN_SET, 0), 8);
-        due("22: MARK of an OWN one", x.ask(OWN_SET, 1), 2 + 8);
-        due("22: nothing changes", x.covers(0), 4);
-    }
-
-    private static void traces() {
-        BuyAsAsked x = withKinds();
-        checkTrace(x, OPEN_SET, 0, new int[] {11, 10});
-        checkTrace(x, OPEN_SET, 1, new int[] {20});
-        checkTrace(x, NEAR_SET, 0, new int[] {12, 11, 10, 21, 20});
-        checkTrace(x, NEAR_SET, 1, new int[] {21, 20});
-        checkTrace(x, OWN_SET, 0, new int[] {13, 10});
-        checkTrace(x, OWN_SET, 1, new int[] {22, 20, 13, 10});
-    }
-
-    private static void checkTrace(BuyAsAsked x, int set, int what, int[] want) {
-        x.ask(set, what);
-        for (int i = 0; i < 20; i++) {
-            due("23: SET " + set + ", ASK " + what + ", number " + i, x.trace(i), i < want.length ? want[i] : NONE);
-        }
-        due("23: below", x.trace(-1), NONE);
-        due("23: far below", x.trace(Checks.LEAST), NONE);
-        due("23: far above", x.trace(Checks.MOST), NONE);
-    }
-
-    private static void askRefusals() {
-        BuyAsAsked x = withKinds();
-        x.ask(OPEN_SET, 0);
-        due("22: SET below", x.ask(-1, 0), BAD);
-        due("22: no such SET", x.ask(3, 0), BAD);
-        due("22: ASK below", x.ask(0, -1), BAD);
-        due("22: ASK above", x.ask(0, 2), BAD);
-        due("22: THE TRACE stays", x.trace(0), 11);
-        due("22: all of it", x.trace(1), 10);
-    }
-
-    private static void counts() {
-        BuyAsAsked x = withKinds();
-        x.sheet(7, 0, 0);
-        x.lease(1, 1);
-        x.site();
-        x.site();
-        x.site();
-        x.way(0, 1, 5);
-        x.way(1, 2, 5);
-        x.call(0);
-        x.call(1);
-        int[] want = {1, 3, 1, 1, 1, 3, 2};
+        x.demand(0);
+        int[] want = {8, 10, 10, 0, 4, 10, 45};
         for (int what = 0; what < want.length; what++) {
-            due("24: count(" + what + ")", x.count(what), want[what]);
+            due(x.count(what), want[what]);
         }
-        due("24: below", x.count(-1), BAD);
-        due("24: above", x.count(7), BAD);
-        due("24: far above", x.count(Checks.MOST), BAD);
     }
 
-    private static void statusOfAs() {
-        BuyAsAsked x = withKinds();
-        due("25: at first", x.status(), 0);
-        x.as(OWN_SET, 1);
-        due("25: KIND", x.status(), 3);
-        x.as(OWN_SET, 4);
-        due("25: BAD leaves it", x.status(), 3);
-        x.ask(9, 0);
-        due("25: another call leaves it", x.status(), 3);
-        x.offer(5, 1);
-        due("25: STATE leaves it", x.status(), 3);
-        x.as(OWN_SET, 3);
-        due("25: none", x.status(), 0);
-        x.as(OPEN_SET, 2);
-        due("25: KIND again", x.status(), 3);
+    static void p24NearOnesAsTheyAreTold() {
+        due(filled(5, 10).count(3), 1);
+        due(filled(5, 11).count(3), 0);
+        BuyAsAsked x = filled(5, 10);
+        x.demand(1);
+        due(x.count(3), 0);
+        due(x.count(2), 2);
+    }
+
+    // ---- promise 25
+
+    static void p25AtFirstIs0() {
+        due(new BuyAsAsked().status(), 0);
+    }
+
+    private static void leaves(Cases.Call call, int status) {
+        BuyAsAsked x = Cases.inUse();
+        due(x.status(), 5);
+        call.on(x);
+        due(x.status(), status);
+    }
+
+    static void p25OfSheet() {
+        leaves(x -> x.sheet(0, 0, 0), 0);
+        leaves(x -> x.sheet(0, 0, -1), 4);
+        leaves(x -> x.sheet(8, 0, 0), 5);
+        leaves(x -> x.sheet(0, 3, -1), 5);
+        leaves(x -> x.sheet(0, 0, 61), 5);
+    }
+
+    static void p25OfSet() {
+        leaves(x -> x.set(0, 0, 0), 0);
+        leaves(x -> x.set(3, 0, 0), 1);
+        leaves(x -> x.set(0, 3, 0), 2);
+        leaves(x -> x.set(8, 0, 0), 5);
+    }
+
+    static void p25OfCopy() {
+        leaves(x -> x.copy(0, 0, 0, 1, 2), 0);
+        leaves(x -> x.copy(0, 0, 3, 0, 1), 1);
+        leaves(x -> x.copy(0, 0, 0, 1, 3), 2);
+        leaves(x -> x.copy(0, 0, 8, 0, 1), 5);
+        BuyAsAsked x = new BuyAsAsked();
         x.sheet(0, 0, 1);
-        due("25: none after a SHEET", x.status(), 0);
+        x.sheet(1, 1, 1);
+        x.copy(0, 0, 1, 0, 1);
+        due(x.status(), 5);
+    }
+
+    static void p25OfDrop() {
+        leaves(x -> x.drop(0), 0);
+        leaves(x -> x.drop(3), 1);
+        leaves(x -> x.drop(8), 5);
+    }
+
+    static void p25OfDemands() {
+        leaves(x -> x.demands(0, 0, 3), 0);
+        leaves(x -> x.demands(3, 0, 1), 1);
+        leaves(x -> x.demands(0, 0, 4), 2);
+        leaves(x -> x.demands(8, 0, 1), 5);
+        leaves(x -> x.demands(0, 0, 0), 5);
+    }
+
+    static void p25OfDemandsThatAreAllPassedOver() {
+        BuyAsAsked x = new BuyAsAsked();
+        x.sheet(0, 0, 1);
+        x.drop(1);
+        due(x.status(), 1);
+        due(x.demands(0, 0, 1), 0);
+        due(x.status(), 0);
+    }
+
+    static void p25OfAs() {
+        leaves(x -> x.as(OPEN_SET, 1), 0);
+        leaves(x -> x.as(OPEN_SET, 3), 3);
+        leaves(x -> x.as(5, 0), 5);
+        leaves(x -> x.as(0, 4), 5);
+    }
+
+    static void p25OtherCallsLeaveIt() {
+        leaves(x -> x.offer(5, 1), 5);
+        leaves(x -> x.demand(1), 5);
+        leaves(x -> x.demand(6), 5);
+        leaves(x -> x.covers(2), 5);
+        leaves(x -> x.told(0, 0), 5);
+        leaves(x -> x.price(0), 5);
+        leaves(x -> x.lease(1, 1), 5);
+        leaves(x -> x.day(5), 5);
+        leaves(x -> x.leases(2), 5);
+        leaves(x -> x.covered(4), 5);
+        leaves(BuyAsAsked::site, 5);
+        leaves(x -> x.way(2, 3, 4), 5);
+        leaves(x -> x.call(3), 5);
+        leaves(x -> x.call(4), 5);
+        leaves(x -> x.joins(1), 5);
+        leaves(x -> x.kind(0), 5);
+        leaves(x -> x.ask(0, 0), 5);
+        leaves(x -> x.trace(0), 5);
+        leaves(x -> x.count(0), 5);
+        leaves(BuyAsAsked::status, 5);
+    }
+
+    static void p25FullLeavesIt() {
+        BuyAsAsked x = Cases.inUse();
+        for (int s = 5; s < 10; s++) {
+            x.site();
+        }
+        due(x.site(), FULL);
+        due(x.status(), 5);
+    }
+
+    static void p25StateLeavesIt() {
+        BuyAsAsked x = new BuyAsAsked();
+        due(x.drop(0), NULL);
+        due(x.demand(0), STATE);
+        due(x.status(), 1);
+    }
+
+    static void p25TheLatestFindingGoesAheadOfEarlierOnes() {
+        BuyAsAsked x = Cases.inUse();
+        x.as(OPEN_SET, 3);
+        due(x.status(), 3);
+        x.drop(3);
+        due(x.status(), 1);
+        x.set(0, 3, 0);
+        due(x.status(), 2);
+        due(x.status(), 2);
     }
 }

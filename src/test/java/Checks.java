@@ -19,6 +19,15 @@ final class Checks {
         }
     }
 
+    static void same(String call, String got, String want) {
+        if (got.equals(want)) {
+            passed++;
+        } else {
+            failed++;
+            System.out.println(call + " left " + got + ", due is " + want);
+        }
+    }
+
     static void end(String test) {
         System.out.println(test + ": " + passed + " passed, " + failed + " failed");
         if (failed != 0) {

@@ -1,186 +1,444 @@
 /** Promises 12 to 15. */
 public final class LeasesTest {
     private static final int BAD = Checks.BAD, STATE = Checks.STATE, FULL = Checks.FULL;
+    private static final int LEAST = Checks.LEAST, MOST = Checks.MOST;
 
     public static void main(String[] args) {
-        leasesOffered();
-        lengthsRise();
-        leaseAfterDays();
-        days();
-        allTightSpansAreBought();
-        fourLeases();
-        dayRefusals();
-        leasesOfAll();
-        leastTakesDearerAndCheaper();
-        cheaperLongLease();
-        covered();
-        Checks.end("LeasesTest");
+        Cases.run(LeasesTest.class, 12, 15);
     }
 
-    private static void due(String call, long got, long want) {
-        Checks.due(call, got, want);
+    private static void due(long got, long want) {
+        Cases.due(got, want);
     }
 
-    private static void leasesOffered() {
+    /** The LEASES are given by length and cost, in turns. */
+    private static BuyAsAsked with(int... leases) {
         BuyAsAsked x = new BuyAsAsked();
-        due("12: length below", x.lease(0, 1), BAD);
-        due("12: length above", x.lease(65, 1), BAD);
-        due("12: far below", x.lease(Checks.LEAST, 1), BAD);
-        due("12: cost below", x.lease(1, 0), BAD);
-        due("12: cost above", x.lease(1, 1001), BAD);
-        due("12: the least", x.lease(1, 1000), 0);
-        due("12: number 1", x.lease(2, 1), 1);
-        due("12: number 2", x.lease(8, 1), 2);
-        due("12: number 3", x.lease(32, 1), 3);
-        due("12: a fifth", x.lease(64, 1), FULL);
-        due("12: STATE goes ahead of FULL", x.lease(48, 1), STATE);
-        due("12: BAD goes ahead of STATE", x.lease(48, 0), BAD);
-        due("12: four stand", x.count(4), 4);
-    }
-
-    private static void lengthsRise() {
-        BuyAsAsked x = new BuyAsAsked();
-        due("12: any first one", x.lease(7, 3), 0);
-        due("12: the same", x.lease(7, 3), STATE);
-        due("12: less", x.lease(1, 3), STATE);
-        due("12: no multiple", x.lease(15, 3), STATE);
-        due("12: twice", x.lease(14, 3), 1);
-        due("12: of the first, not of the one ahead", x.lease(21, 3), STATE);
-        due("12: three times", x.lease(42, 3), 2);
-        due("12: no room", x.lease(64, 3), STATE);
-        due("12: three stand", x.count(4), 3);
-        due("12: the longest", new BuyAsAsked().lease(64, 3), 0);
-    }
-
-    private static void leaseAfterDays() {
-        BuyAsAsked x = new BuyAsAsked();
-        due("12: a refused day is none", x.day(0), STATE);
-        due("12: still open", x.lease(1, 3), 0);
-        x.day(0);
-        due("12: a day was asked", x.lease(2, 3), STATE);
-        due("12: BAD goes ahead", x.lease(2, 0), BAD);
-    }
-
-    private static void days() {
-        BuyAsAsked x = new BuyAsAsked();
-        x.lease(2, 5);
-        x.lease(4, 8);
-        due("13: the first SPAN", x.day(3), 5);
-        due("13: its SPAN is 2 and 3", x.covered(2), 1);
-        due("13: not 4", x.covered(4), 0);
-        due("13: another SPAN", x.day(5), 5);
-        due("13: another price", x.leases(1), 10);
-        due("13: two days of three left", x.day(7), 8);
-        due("13: the price of what was missing", x.leases(1), 13);
-        due("13: all in one", x.leases(4), 3);
-    }
-
-    private static void allTightSpansAreBought() {
-        BuyAsAsked x = new BuyAsAsked();
-        x.lease(1, 4);
-        x.lease(2, 8);
-        x.lease(4, 8);
-        due("13: one", x.day(0), 4);
-        due("13: three at once", x.day(1), 4 + 8 + 8);
-        due("13: covered", x.day(3), 0);
-        due("13: four SPANS", x.leases(4), 4);
-        due("13: a SPAN that ends beyond the days", x.day(127), 4);
-    }
-
-    private static void fourLeases() {
-        BuyAsAsked x = new BuyAsAsked();
-        x.lease(1, 2);
-        x.lease(2, 3);
-        x.lease(4, 5);
-        x.lease(64, 6);
-        int[] paid = {2, 3, 2 + 5, 0, 6};
-        int[] best = {2, 3, 5, 5, 6};
-        for (int d = 0; d < paid.length; d++) {
-            due("13: day " + d, x.day(d), paid[d]);
-            due("14: BEST to day " + d, x.leases(2), best[d]);
+        for (int k = 0; k + 1 < leases.length; k += 2) {
+            x.lease(leases[k], leases[k + 1]);
         }
-        due("15: by the longest", x.covered(63), 1);
-        due("15: no further", x.covered(64), 0);
+        return x;
     }
 
-    private static void dayRefusals() {
-        BuyAsAsked x = new BuyAsAsked();
-        due("13: no LEASES", x.day(5), STATE);
-        due("13: BAD goes ahead", x.day(128), BAD);
-        x.lease(1, 4);
-        due("13: below", x.day(-1), BAD);
-        due("13: above", x.day(128), BAD);
-        due("13: far below", x.day(Checks.LEAST), BAD);
-        due("13: far above", x.day(Checks.MOST), BAD);
-        due("13: a day", x.day(5), 4);
-        due("13: as late", x.day(5), STATE);
-        due("13: later was asked", x.day(4), STATE);
-        due("13: one asked", x.leases(3), 1);
-        due("13: the last", x.day(127), 4);
-        due("13: nothing later", x.day(127), STATE);
+    private static BuyAsAsked withSeven() {
+        return with(7, 3);
     }
 
-    private static void leasesOfAll() {
-        BuyAsAsked x = new BuyAsAsked();
-        x.lease(1, 3);
-        x.lease(4, 8);
+    private static BuyAsAsked withFour() {
+        return with(1, 2, 2, 3, 4, 5, 8, 6);
+    }
+
+    private static BuyAsAsked withFourAsked() {
+        BuyAsAsked x = withFour();
         x.day(0);
-        x.day(1);
+        return x;
+    }
+
+    // ---- promise 12
+
+    static void p12LengthBelow1IsBad() {
+        Cases.bad((x, n) -> x.lease(n, 1), 0, -1, LEAST);
+    }
+
+    static void p12LengthAbove64IsBad() {
+        Cases.bad((x, n) -> x.lease(n, 1), 65, 128, MOST);
+    }
+
+    static void p12CostBelow1IsBad() {
+        Cases.bad((x, n) -> x.lease(1, n), 0, -1, LEAST);
+    }
+
+    static void p12CostAbove1000IsBad() {
+        Cases.bad((x, n) -> x.lease(1, n), 1001, MOST);
+    }
+
+    static void p12LeastLengthAndCost() {
+        BuyAsAsked x = with();
+        due(x.lease(1, 1), 0);
+        due(x.day(0), 1);
+        due(x.covered(1), 0);
+    }
+
+    static void p12MostLengthAndCost() {
+        BuyAsAsked x = with();
+        due(x.lease(64, 1000), 0);
+        due(x.day(0), 1000);
+        due(x.covered(63), 1);
+        due(x.covered(64), 0);
+    }
+
+    static void p12NumbersGoFrom0To3() {
+        BuyAsAsked x = with();
+        for (int k = 0; k < 4; k++) {
+            due(x.lease(1 << 2 * k, 9), k);
+            due(x.count(4), k + 1);
+        }
+    }
+
+    static void p12TheSameLengthIsState() {
+        Cases.refused(LeasesTest::withSeven, x -> x.lease(7, 3), STATE);
+        Cases.refused(LeasesTest::withSeven, x -> x.lease(7, 9), STATE);
+    }
+
+    static void p12AShorterOneIsState() {
+        Cases.refused(LeasesTest::withSeven, x -> x.lease(1, 3), STATE);
+        Cases.refused(LeasesTest::withSeven, x -> x.lease(6, 3), STATE);
+    }
+
+    static void p12NoMultipleIsState() {
+        for (int length : new int[] {8, 13, 15, 20, 22, 62, 64}) {
+            Cases.refused(LeasesTest::withSeven, x -> x.lease(length, 3), STATE);
+        }
+    }
+
+    static void p12AMultipleOfTheFirstButNotOfTheOneAheadIsState() {
+        Cases.refused(() -> with(7, 3, 14, 5), x -> x.lease(21, 6), STATE);
+        Cases.refused(() -> with(7, 3, 14, 5), x -> x.lease(35, 6), STATE);
+    }
+
+    static void p12TwiceTheOneAhead() {
+        BuyAsAsked x = withSeven();
+        due(x.lease(14, 3), 1);
+        due(x.lease(28, 3), 2);
+        due(x.lease(56, 3), 3);
+    }
+
+    static void p12ThriceTheOneAhead() {
+        BuyAsAsked x = withSeven();
+        due(x.lease(21, 3), 1);
+        due(x.lease(63, 3), 2);
+    }
+
+    static void p12FromTheLeastLengthToTheMost() {
+        BuyAsAsked x = with(1, 1);
+        due(x.lease(64, 1), 1);
+        due(x.lease(64, 1), STATE);
+    }
+
+    static void p12ADearerOrCheaperOneMayFollow() {
+        BuyAsAsked x = with(1, 1000);
+        due(x.lease(2, 1), 1);
+        due(x.lease(4, 1), 2);
+        due(x.lease(8, 1000), 3);
+    }
+
+    static void p12AFifthIsFull() {
+        Cases.refused(LeasesTest::withFour, x -> x.lease(16, 1), FULL);
+        Cases.refused(LeasesTest::withFour, x -> x.lease(64, 1), FULL);
+    }
+
+    static void p12StateGoesAheadOfFull() {
+        Cases.refused(LeasesTest::withFour, x -> x.lease(8, 1), STATE);
+        Cases.refused(LeasesTest::withFour, x -> x.lease(12, 1), STATE);
+        Cases.refused(LeasesTest::withFourAsked, x -> x.lease(16, 1), STATE);
+    }
+
+    static void p12BadGoesAheadOfStateAndFull() {
+        Cases.refused(LeasesTest::withFour, x -> x.lease(16, 0), BAD);
+        Cases.refused(LeasesTest::withFour, x -> x.lease(8, 1001), BAD);
+        Cases.refused(LeasesTest::withFour, x -> x.lease(0, 1), BAD);
+        Cases.refused(LeasesTest::withFourAsked, x -> x.lease(65, 1), BAD);
+    }
+
+    static void p12AfterADayIsState() {
+        Cases.refused(Cases::inUse, x -> x.lease(12, 1), STATE);
+        Cases.refused(Cases::inUse, x -> x.lease(2, 3), STATE);
+    }
+
+    static void p12ARefusedDayLeavesItOpen() {
+        BuyAsAsked x = with();
+        due(x.day(0), STATE);
+        due(x.lease(1, 3), 0);
+        due(x.day(128), BAD);
+        due(x.day(-1), BAD);
+        due(x.lease(2, 3), 1);
+    }
+
+    // ---- promise 13
+
+    static void p13DayBelow0IsBad() {
+        Cases.bad(BuyAsAsked::day, -1, LEAST);
+    }
+
+    static void p13DayAbove127IsBad() {
+        Cases.bad(BuyAsAsked::day, 128, 129, MOST);
+    }
+
+    static void p13WithoutLeasesIsState() {
+        for (int d : new int[] {0, 64, 127}) {
+            Cases.refused(BuyAsAsked::new, x -> x.day(d), STATE);
+        }
+    }
+
+    static void p13AsLateIsState() {
+        Cases.refused(Cases::inUse, x -> x.day(4), STATE);
+    }
+
+    static void p13EarlierIsState() {
+        Cases.refused(Cases::inUse, x -> x.day(3), STATE);
+        Cases.refused(Cases::inUse, x -> x.day(0), STATE);
+    }
+
+    static void p13FirstDay() {
+        BuyAsAsked x = with(1, 4);
+        due(x.day(0), 4);
+        due(x.day(0), STATE);
+        due(x.day(1), 4);
+    }
+
+    static void p13NothingComesBehindTheLastDay() {
+        BuyAsAsked x = with(1, 4);
+        due(x.day(127), 4);
+        due(x.day(127), STATE);
+        due(x.day(126), STATE);
+        due(x.day(128), BAD);
+        due(x.leases(3), 1);
+    }
+
+    static void p13AllDays() {
+        BuyAsAsked x = with(1, 1000);
+        for (int d = 0; d < 128; d++) {
+            due(x.day(d), 1000);
+        }
+        due(x.leases(0), 128000);
+        due(x.leases(1), 128000);
+        due(x.leases(2), 128000);
+        due(x.leases(3), 128);
+        due(x.leases(4), 128);
+    }
+
+    static void p13ACoveredDayIsNothing() {
+        BuyAsAsked x = with(4, 5);
+        due(x.day(4), 5);
+        due(x.day(5), 0);
+        due(x.day(7), 0);
+        due(x.leases(1), 5);
+        due(x.leases(3), 3);
+        due(x.leases(4), 1);
+    }
+
+    static void p13ACoveredDayIsAskedToo() {
+        BuyAsAsked x = with(4, 5);
+        x.day(4);
+        x.day(6);
+        due(x.day(6), STATE);
+        due(x.day(5), STATE);
+    }
+
+    static void p13ASpanBeginsAndEndsAtMultiples() {
+        BuyAsAsked x = with(5, 3);
+        due(x.day(4), 3);
+        due(x.day(5), 3);
+        due(x.day(9), 0);
+        due(x.day(10), 3);
+    }
+
+    static void p13ASpanMayGoBeyondTheDays() {
+        BuyAsAsked x = with(48, 6);
+        due(x.day(95), 6);
+        due(x.day(96), 6);
+        due(x.day(127), 0);
+    }
+
+    static void p13AllSpansThatAreTightThenAreBought() {
+        BuyAsAsked x = with(1, 4, 2, 8, 4, 8);
+        due(x.day(0), 4);
+        due(x.day(1), 4 + 8 + 8);
+        due(x.leases(4), 4);
+        due(x.day(3), 0);
+    }
+
+    static void p13OneShortOfTightIsNotBought() {
+        BuyAsAsked x = with(1, 4, 2, 9);
+        due(x.day(0), 4);
+        due(x.day(1), 4);
+        due(x.leases(4), 2);
+        BuyAsAsked y = with(1, 4, 4, 9);
+        y.day(0);
+        y.day(1);
+        due(y.day(2), 9);
+        due(y.leases(1), 9);
+    }
+
+    static void p13AnotherSpanIsFilledAnew() {
+        BuyAsAsked x = with(1, 4, 4, 9);
         x.day(2);
         x.day(3);
-        due("14: paid", x.leases(0), 3 + 3 + 8);
-        due("14: prices", x.leases(1), 8);
-        due("14: BEST", x.leases(2), 8);
-        due("14: asked", x.leases(3), 4);
-        due("14: SPANS", x.leases(4), 3);
-        due("14: below", x.leases(-1), BAD);
-        due("14: above", x.leases(5), BAD);
-        due("14: far above", x.leases(Checks.MOST), BAD);
+        due(x.day(4), 4);
+        due(x.day(5), 4);
+        due(x.day(6), 9);
     }
 
-    private static void leastTakesDearerAndCheaper() {
-        BuyAsAsked x = new BuyAsAsked();
-        x.lease(2, 5);
-        x.lease(8, 12);
-        x.day(1);
-        due("14: BEST of one", x.leases(2), 5);
-        x.day(3);
-        due("14: BEST of two", x.leases(2), 10);
-        x.day(6);
-        due("14: BEST of a long one", x.leases(2), 12);
-        x.day(9);
-        due("14: BEST of both", x.leases(2), 17);
-        BuyAsAsked y = new BuyAsAsked();
-        y.lease(64, 1000);
-        y.day(63);
-        y.day(64);
-        due("14: BEST of two long ones", y.leases(2), 2000);
+    static void p13ALongOneMayBeCheaper() {
+        BuyAsAsked x = with(1, 9, 64, 2);
+        due(x.day(70), 2);
+        due(x.leases(4), 1);
+        due(x.day(127), 0);
     }
 
-    private static void cheaperLongLease() {
-        BuyAsAsked x = new BuyAsAsked();
-        x.lease(1, 9);
-        x.lease(64, 2);
-        due("13: a long one is cheaper", x.day(70), 2);
-        due("14: BEST is cheaper too", x.leases(2), 2);
-        due("15: all of its SPAN", x.covered(64), 1);
-        due("15: none ahead of it", x.covered(63), 0);
-        due("15: to its end", x.covered(127), 1);
+    static void p13FourLeases() {
+        BuyAsAsked x = with(1, 2, 2, 3, 4, 5, 64, 6);
+        int[] paid = {2, 3, 2 + 5, 0, 6};
+        for (int d = 0; d < paid.length; d++) {
+            Cases.due("day " + d, x.day(d), paid[d]);
+        }
     }
 
-    private static void covered() {
-        BuyAsAsked x = new BuyAsAsked();
-        due("15: no LEASES", x.covered(0), 0);
-        due("15: below", x.covered(-1), BAD);
-        due("15: above", x.covered(128), BAD);
-        x.lease(3, 2);
-        due("15: nothing bought", x.covered(4), 0);
-        x.day(4);
-        due("15: ahead", x.covered(2), 0);
-        due("15: first", x.covered(3), 1);
-        due("15: last", x.covered(5), 1);
-        due("15: behind", x.covered(6), 0);
+    // ---- promise 14
+
+    static void p14WhatBelow0IsBad() {
+        Cases.bad(BuyAsAsked::leases, -1, LEAST);
+    }
+
+    static void p14WhatAbove4IsBad() {
+        Cases.bad(BuyAsAsked::leases, 5, 6, MOST);
+    }
+
+    static void p14WithoutDaysAllAre0() {
+        BuyAsAsked x = withFour();
+        for (int what = 0; what < 5; what++) {
+            due(x.leases(what), 0);
+        }
+    }
+
+    static void p14EachOfThem() {
+        BuyAsAsked x = with(1, 3, 4, 8);
+        for (int d = 0; d < 4; d++) {
+            x.day(d);
+        }
+        int[] want = {3 + 3 + 8, 8, 8, 4, 3};
+        for (int what = 0; what < want.length; what++) {
+            due(x.leases(what), want[what]);
+        }
+    }
+
+    static void p14BestOfOneDay() {
+        BuyAsAsked x = with(1, 7, 64, 6);
+        x.day(0);
+        due(x.leases(2), 6);
+        BuyAsAsked y = with(1, 6, 64, 7);
+        y.day(127);
+        due(y.leases(2), 6);
+    }
+
+    static void p14BestGrowsFromShortToLong() {
+        BuyAsAsked x = with(2, 5, 8, 12);
+        int[] days = {1, 3, 6, 9};
+        int[] best = {5, 10, 12, 17};
+        for (int k = 0; k < days.length; k++) {
+            x.day(days[k]);
+            Cases.due("day " + days[k], x.leases(2), best[k]);
+        }
+    }
+
+    static void p14BestAtTheEdgeOfTwoSpans() {
+        BuyAsAsked x = with(64, 1000);
+        x.day(63);
+        due(x.leases(2), 1000);
+        x.day(64);
+        due(x.leases(2), 2000);
         x.day(127);
-        due("15: a SPAN cut by the end", x.covered(126), 1);
+        due(x.leases(2), 2000);
+    }
+
+    static void p14BestOfASpanBeyondTheDays() {
+        BuyAsAsked x = with(12, 4, 48, 9);
+        x.day(96);
+        x.day(108);
+        due(x.leases(2), 8);
+        x.day(120);
+        due(x.leases(2), 9);
+    }
+
+    static void p14BestLeavesOutBoughtSpans() {
+        BuyAsAsked x = with(1, 4, 2, 5, 4, 100);
+        x.day(0);
+        due(x.leases(2), 4);
+        x.day(1);
+        due(x.leases(0), 4 + 5);
+        due(x.leases(2), 5);
+    }
+
+    static void p14BestOfFourLeases() {
+        BuyAsAsked x = with(1, 2, 2, 3, 4, 5, 64, 6);
+        int[] best = {2, 3, 5, 5, 6};
+        for (int d = 0; d < best.length; d++) {
+            x.day(d);
+            Cases.due("day " + d, x.leases(2), best[d]);
+        }
+    }
+
+    static void p14ARefusedDayIsNotAsked() {
+        BuyAsAsked x = with(1, 4);
+        x.day(5);
+        due(x.day(5), STATE);
+        due(x.day(4), STATE);
+        due(x.day(128), BAD);
+        due(x.leases(3), 1);
+        due(x.leases(2), 4);
+    }
+
+    // ---- promise 15
+
+    static void p15DayBelow0IsBad() {
+        Cases.bad(BuyAsAsked::covered, -1, LEAST);
+    }
+
+    static void p15DayAbove127IsBad() {
+        Cases.bad(BuyAsAsked::covered, 128, 129, MOST);
+    }
+
+    static void p15WithoutBoughtSpansNoneIs() {
+        BuyAsAsked x = withFour();
+        for (int d : new int[] {0, 63, 64, 127}) {
+            due(x.covered(d), 0);
+        }
+    }
+
+    private static void coveredAre(BuyAsAsked x, int from, int end) {
+        for (int d = 0; d < 128; d++) {
+            Cases.due("covered(" + d + ")", x.covered(d), from <= d && d < end ? 1 : 0);
+        }
+    }
+
+    static void p15FromTheFirstDayOfASpanToItsLast() {
+        BuyAsAsked x = with(3, 2);
+        x.day(4);
+        coveredAre(x, 3, 6);
+    }
+
+    static void p15ASpanOfOneDay() {
+        BuyAsAsked x = with(1, 2);
+        x.day(5);
+        coveredAre(x, 5, 6);
+    }
+
+    static void p15TheFirstSpan() {
+        BuyAsAsked x = with(64, 2);
+        x.day(63);
+        coveredAre(x, 0, 64);
+    }
+
+    static void p15ASpanCutByTheLastDay() {
+        BuyAsAsked x = with(3, 2);
+        x.day(127);
+        coveredAre(x, 126, 128);
+        BuyAsAsked y = with(48, 2);
+        y.day(100);
+        coveredAre(y, 96, 128);
+    }
+
+    static void p15ByTheLongestThatIsBought() {
+        BuyAsAsked x = with(1, 4, 2, 4, 8, 4);
+        x.day(9);
+        coveredAre(x, 8, 16);
+    }
+
+    static void p15AnAskedDayIsAlwaysCovered() {
+        BuyAsAsked x = with(2, 3, 6, 7);
+        for (int d = 1; d < 128; d += 3) {
+            x.day(d);
+            due(x.covered(d), 1);
+        }
     }
 }

@@ -1,255 +1,569 @@
-/** Promises 1 to 5, and 25 for the calls with a SHEET. */
+import java.util.function.Consumer;
+
+/** Promises 1 to 5, and the terms that all of the document shares (p00). */
 public final class SheetsTest {
-    private static final int BAD = Checks.BAD, NULL = Checks.NULL, PLACE = Checks.PLACE;
-    private static final int SIZE = Checks.SIZE, STORE = Checks.STORE, STATE = Checks.STATE;
+    private static final int BAD = Checks.BAD, STATE = Checks.STATE, NONE = Checks.NONE;
+    private static final int NULL = Checks.NULL, PLACE = Checks.PLACE, SIZE = Checks.SIZE, STORE = Checks.STORE;
+    private static final int LEAST = Checks.LEAST, MOST = Checks.MOST;
 
     public static void main(String[] args) {
-        newObject();
-        constants();
-        sheets();
-        lanes();
-        setRefusals();
-        copies();
-        copyRefusals();
-        drops();
-        statusOfSheets();
-        statusOfAnswersThatLookLikeRefusals();
-        statusOfDemands();
-        Checks.end("SheetsTest");
+        Cases.run(SheetsTest.class, 0, 5);
     }
 
-    private static void due(String call, long got, long want) {
-        Checks.due(call, got, want);
+    private static void due(long got, long want) {
+        Cases.due(got, want);
     }
 
-    private static void newObject() {
+    /** SHEET 0 holds three bytes, 1 two shorts, 2 sixty ints, 3 no ints, 4 four bytes; the others are missing. */
+    private static BuyAsAsked withSheets() {
         BuyAsAsked x = new BuyAsAsked();
-        for (int what = 0; what < 7; what++) {
-            due("1: count(" + what + ")", x.count(what), 0);
+        x.sheet(0, 0, 3);
+        x.sheet(1, 1, 2);
+        x.sheet(2, 2, 60);
+        x.sheet(3, 2, 0);
+        x.sheet(4, 0, 4);
+        return x;
+    }
+
+    private static void found(Cases.Call call, int want) {
+        Cases.refused(SheetsTest::withSheets, call, want);
+    }
+
+    /** A SHEET has just these ITEMS, THINGS 0 to 8: each is told by what a DEMAND of it costs in an object made anew. */
+    private static void reads(Consumer<BuyAsAsked> made, int sheet, int... things) {
+        for (int i = 0; i <= things.length; i++) {
+            BuyAsAsked x = new BuyAsAsked();
+            for (int thing = 0; thing < 9; thing++) {
+                x.offer(1 + thing, 1 << thing);
+            }
+            made.accept(x);
+            Cases.due("ITEM " + i, x.demands(sheet, i, 1), i < things.length ? 1 + things[i] : PLACE);
         }
+    }
+
+    private static void lay(BuyAsAsked x, int sheet, int lane, int... items) {
+        x.sheet(sheet, lane, items.length);
+        for (int i = 0; i < items.length; i++) {
+            x.set(sheet, i, items[i]);
+        }
+    }
+
+    // ---- terms
+
+    static void p00NumbersOfRefusals() {
+        due(BuyAsAsked.NONE, -1000000);
+        due(BuyAsAsked.BAD, -1000001);
+        due(BuyAsAsked.STATE, -1000002);
+        due(BuyAsAsked.FULL, -1000003);
+    }
+
+    static void p00NumbersOfFindings() {
+        BuyAsAsked x = withSheets();
+        x.offer(1, 1);
+        due(x.drop(5), -1000010 - 1);
+        due(x.set(0, 3, 0), -1000010 - 2);
+        due(x.as(0, 3), -1000010 - 3);
+        due(x.sheet(0, 0, -1), -1000010 - 4);
+        due(x.copy(0, 0, 1, 0, 1), -1000010 - 5);
+    }
+
+    static void p00TheLastOf512CallsHolds() {
+        BuyAsAsked x = new BuyAsAsked();
+        x.offer(1000, 1);
+        for (int call = 2; call < 512; call++) {
+            Cases.due("call " + call, x.demand(0), call == 2 ? 1000 : 0);
+        }
+        due(x.covers(0), 1000);
+    }
+
+    // ---- promise 1
+
+    static void p01NoSheets() {
+        BuyAsAsked x = new BuyAsAsked();
+        due(x.count(0), 0);
+        for (int sheet = 0; sheet < 8; sheet++) {
+            due(x.drop(sheet), NULL);
+        }
+    }
+
+    static void p01NoSets() {
+        BuyAsAsked x = new BuyAsAsked();
+        due(x.count(1), 0);
+        due(x.count(2), 0);
+        due(x.count(3), 0);
+        due(x.told(0, 0), BAD);
+        due(x.kind(0), BAD);
         for (int what = 0; what < 6; what++) {
-            due("1: covers(" + what + ")", x.covers(what), 0);
+            due(x.covers(what), 0);
         }
+        for (int thing = 0; thing < 12; thing++) {
+            due(x.price(thing), 0);
+            due(x.demand(thing), STATE);
+        }
+    }
+
+    static void p01NoLeases() {
+        BuyAsAsked x = new BuyAsAsked();
+        due(x.count(4), 0);
+        due(x.day(0), STATE);
         for (int what = 0; what < 5; what++) {
-            due("1: leases(" + what + ")", x.leases(what), 0);
-            due("1: joins(" + what + ")", x.joins(what), 0);
+            due(x.leases(what), 0);
+        }
+        for (int d = 0; d < 128; d++) {
+            due(x.covered(d), 0);
+        }
+    }
+
+    static void p01NoSites() {
+        BuyAsAsked x = new BuyAsAsked();
+        due(x.count(5), 0);
+        due(x.count(6), 0);
+        due(x.call(0), BAD);
+        due(x.way(0, 1, 1), BAD);
+        for (int what = 0; what < 5; what++) {
+            due(x.joins(what), 0);
+        }
+    }
+
+    static void p01NothingWasAsked() {
+        BuyAsAsked x = new BuyAsAsked();
+        due(x.status(), 0);
+        due(x.trace(0), NONE);
+    }
+
+    static void p01OneObjectLeavesAnotherAsItIs() {
+        BuyAsAsked x = new BuyAsAsked();
+        BuyAsAsked used = Cases.inUse();
+        due(used.count(1), 5);
+        for (int what = 0; what < 7; what++) {
+            due(x.count(what), 0);
+        }
+        due(x.status(), 0);
+        due(x.trace(0), NONE);
+        due(x.offer(5, 1), 0);
+    }
+
+    // ---- promise 2
+
+    static void p02FirstAndLastSheet() {
+        BuyAsAsked x = new BuyAsAsked();
+        due(x.sheet(0, 0, 1), 1);
+        due(x.sheet(7, 0, 2), 2);
+        due(x.count(0), 2);
+    }
+
+    static void p02AllEightAtOnce() {
+        BuyAsAsked x = new BuyAsAsked();
+        for (int sheet = 0; sheet < 8; sheet++) {
+            due(x.sheet(sheet, sheet % 3, 5 + sheet), 5 + sheet);
+            due(x.count(0), sheet + 1);
         }
         for (int sheet = 0; sheet < 8; sheet++) {
-            due("1: drop of a missing SHEET", x.drop(sheet), NULL);
-        }
-        due("1: trace", x.trace(0), Checks.NONE);
-        due("1: status", new BuyAsAsked().status(), 0);
-    }
-
-    private static void constants() {
-        due("NONE", BuyAsAsked.NONE, -1000000);
-        due("BAD", BuyAsAsked.BAD, -1000001);
-        due("STATE", BuyAsAsked.STATE, -1000002);
-        due("FULL", BuyAsAsked.FULL, -1000003);
-    }
-
-    private static void sheets() {
-        BuyAsAsked x = new BuyAsAsked();
-        due("2: least SHEET", x.sheet(0, 0, 0), 0);
-        due("2: most ITEMS", x.sheet(7, 2, 60), 60);
-        due("2: count", x.count(0), 2);
-        due("2: SHEET below", x.sheet(-1, 0, 1), BAD);
-        due("2: SHEET above", x.sheet(8, 0, 1), BAD);
-        due("2: LANE below", x.sheet(0, -1, 1), BAD);
-        due("2: LANE above", x.sheet(0, 3, 1), BAD);
-        due("2: n above", x.sheet(0, 0, 61), BAD);
-        due("2: n far above", x.sheet(0, 0, Checks.MOST), BAD);
-        due("2: fewer than none", x.sheet(0, 0, -1), SIZE);
-        due("2: far fewer", x.sheet(0, 0, Checks.LEAST), SIZE);
-        due("2: BAD goes ahead of SIZE", x.sheet(8, 0, -1), BAD);
-        due("2: BAD LANE goes ahead of SIZE", x.sheet(0, 3, -1), BAD);
-        due("2: what is found changes nothing", x.drop(0), 0);
-        due("2: what is refused changes nothing", x.drop(7), 60);
-        for (int i = 0; i < 3; i++) {
-            checkLaidAnew(i);
+            due(x.drop(sheet), 5 + sheet);
         }
     }
 
-    private static void checkLaidAnew(int i) {
+    static void p02SheetBelow0IsBad() {
+        Cases.bad((x, n) -> x.sheet(n, 0, 1), -1, LEAST);
+    }
+
+    static void p02SheetAbove7IsBad() {
+        Cases.bad((x, n) -> x.sheet(n, 0, 1), 8, 9, MOST);
+    }
+
+    static void p02FirstAndLastLane() {
+        reads(x -> lay(x, 0, 0, 256 + 3), 0, 3);
+        reads(x -> lay(x, 0, 1, 65536 + 3), 0, 3);
+        reads(x -> lay(x, 0, 2, 3), 0, 3);
+    }
+
+    static void p02LaneBelow0IsBad() {
+        Cases.bad((x, n) -> x.sheet(0, n, 1), -1, LEAST);
+    }
+
+    static void p02LaneAbove2IsBad() {
+        Cases.bad((x, n) -> x.sheet(0, n, 1), 3, 4, MOST);
+    }
+
+    static void p02NoItems() {
+        reads(x -> due(x.sheet(0, 0, 0), 0), 0);
+    }
+
+    static void p02SixtyItems() {
         BuyAsAsked x = new BuyAsAsked();
-        x.sheet(1, 2, 3);
-        x.set(1, i, 5);
-        due("2: in place of what is there", x.sheet(1, 2, 3), 3);
-        due("2: ITEM " + i + " is 0 at first", demandOfItem(x, 1, i), 0);
+        due(x.sheet(0, 0, 60), 60);
+        due(x.set(0, 59, 7), 7);
+        due(x.set(0, 60, 7), PLACE);
     }
 
-    /** Which THING an ITEM of an int SHEET names, found by the price that its DEMAND raises; -1 for none. */
-    private static int demandOfItem(BuyAsAsked x, int sheet, int i) {
-        for (int thing = 0; thing < 9; thing++) {
-            x.offer(1, 1 << thing);
-        }
-        x.demands(sheet, i, 1);
-        for (int thing = 0; thing < 12; thing++) {
-            if (x.price(thing) > 0) {
-                return thing;
-            }
-        }
-        return -1;
+    static void p02MoreThanSixtyItemsAreBad() {
+        Cases.bad((x, n) -> x.sheet(0, 0, n), 61, 62, MOST);
     }
 
-    private static void lanes() {
-        BuyAsAsked x = new BuyAsAsked();
-        for (int lane = 0; lane < 3; lane++) {
-            x.sheet(lane, lane, 2);
-        }
-        int[] given = {0, 1, -1, 127, 128, 255, 256, -128, -129, 300, 32767, 32768, 65535, -32769, 8388608,
-            Integer.MAX_VALUE, Integer.MIN_VALUE, BuyAsAsked.BAD};
-        for (int v : given) {
-            due("3: byte " + v, x.set(0, 1, v), (byte) v);
-            due("3: short " + v, x.set(1, 0, v), (short) v);
-            due("3: int " + v, x.set(2, 1, v), v);
-        }
-    }
-
-    private static void setRefusals() {
-        BuyAsAsked x = new BuyAsAsked();
-        x.sheet(0, 2, 2);
-        x.sheet(1, 2, 0);
-        due("3: SHEET below", x.set(-1, 0, 0), BAD);
-        due("3: SHEET above", x.set(8, 0, 0), BAD);
-        due("3: missing", x.set(2, 0, 0), NULL);
-        due("3: missing goes ahead of place", x.set(2, -1, 0), NULL);
-        due("3: below", x.set(0, -1, 0), PLACE);
-        due("3: above", x.set(0, 2, 0), PLACE);
-        due("3: far below", x.set(0, Checks.LEAST, 0), PLACE);
-        due("3: far above", x.set(0, Checks.MOST, 0), PLACE);
-        due("3: an empty SHEET has no place", x.set(1, 0, 0), PLACE);
-        due("3: the last one", x.set(0, 1, 7), 7);
-    }
-
-    /** Sets ITEMS 0 .. of SHEET 0 to the THINGS, copies within it, and tells the THINGS that then stand. */
-    private static void copies() {
-        checkCopy("4: onwards over itself", new int[] {0, 1, 2, 3, 4}, 0, 2, 3, new int[] {0, 1, 0, 1, 2});
-        checkCopy("4: backwards over itself", new int[] {0, 1, 2, 3, 4}, 2, 0, 3, new int[] {2, 3, 4, 3, 4});
-        checkCopy("4: all onto itself", new int[] {4, 3, 2, 1, 0}, 0, 0, 5, new int[] {4, 3, 2, 1, 0});
-        checkCopy("4: none", new int[] {4, 3, 2, 1, 0}, 5, 5, 0, new int[] {4, 3, 2, 1, 0});
-        BuyAsAsked x = new BuyAsAsked();
-        x.sheet(0, 1, 4);
-        x.sheet(1, 1, 3);
-        x.set(0, 3, 6);
-        due("4: to another SHEET", x.copy(0, 3, 1, 0, 1), 1);
-        due("4: what came there", demandOfItem(x, 1, 0), 6);
-    }
-
-    private static void checkCopy(String name, int[] from, int i, int j, int n, int[] want) {
-        for (int k = 0; k < want.length; k++) {
-            BuyAsAsked x = new BuyAsAsked();
-            x.sheet(0, 0, from.length);
-            for (int at = 0; at < from.length; at++) {
-                x.set(0, at, from[at]);
-            }
-            due(name, x.copy(0, i, 0, j, n), n);
-            due(name + ", ITEM " + k, demandOfItem(x, 0, k), want[k]);
+    static void p02FewerItemsThanNoneAreSize() {
+        for (int n : new int[] {-1, -2, LEAST}) {
+            found(x -> x.sheet(0, 0, n), SIZE);
+            found(x -> x.sheet(5, 2, n), SIZE);
         }
     }
 
-    private static void copyRefusals() {
-        BuyAsAsked x = new BuyAsAsked();
-        x.sheet(0, 2, 3);
-        x.sheet(1, 2, 2);
-        x.sheet(2, 1, 3);
-        due("4: SHEET a below", x.copy(-1, 0, 0, 0, 1), BAD);
-        due("4: SHEET a above", x.copy(8, 0, 0, 0, 1), BAD);
-        due("4: SHEET b below", x.copy(0, 0, -1, 0, 1), BAD);
-        due("4: SHEET b above", x.copy(0, 0, 8, 0, 1), BAD);
-        due("4: BAD goes ahead of NULL", x.copy(5, 0, 8, 0, 1), BAD);
-        due("4: a is missing", x.copy(5, 0, 0, 0, 1), NULL);
-        due("4: b is missing", x.copy(0, 0, 5, 0, 1), NULL);
-        due("4: NULL goes ahead of PLACE", x.copy(0, -1, 5, 0, 1), NULL);
-        due("4: two LANES", x.copy(0, 0, 2, 0, 1), STORE);
-        due("4: STORE goes ahead of PLACE", x.copy(0, -1, 2, 0, 1), STORE);
-        due("4: STORE of none", x.copy(0, 0, 2, 0, 0), STORE);
-        due("4: i below", x.copy(0, -1, 1, 0, 1), PLACE);
-        due("4: j below", x.copy(0, 0, 1, -1, 1), PLACE);
-        due("4: n below", x.copy(0, 0, 1, 0, -1), PLACE);
-        due("4: beyond the end of a", x.copy(1, 1, 0, 0, 2), PLACE);
-        due("4: beyond the end of b", x.copy(0, 0, 1, 1, 2), PLACE);
-        due("4: none beyond the end of a", x.copy(0, 4, 1, 0, 0), PLACE);
-        due("4: none beyond the end of b", x.copy(0, 0, 1, 3, 0), PLACE);
-        due("4: none at both ends", x.copy(0, 3, 1, 2, 0), 0);
-        due("4: up to both ends", x.copy(0, 1, 1, 0, 2), 2);
-        due("4: i far above", x.copy(0, Checks.MOST, 1, 0, 2), PLACE);
-        due("4: j far above", x.copy(0, 0, 1, Checks.MOST, 2), PLACE);
-        due("4: n far above", x.copy(0, 1, 1, 1, Checks.MOST), PLACE);
-        due("4: n far below", x.copy(0, 1, 1, 1, Checks.LEAST), PLACE);
-        due("4: i, j, n far above", x.copy(0, Checks.MOST, 1, Checks.MOST, Checks.MOST), PLACE);
+    static void p02BadGoesAheadOfSize() {
+        Cases.bad((x, n) -> x.sheet(n, 0, -1), -1, 8);
+        Cases.bad((x, n) -> x.sheet(0, n, -1), -1, 3);
     }
 
-    private static void drops() {
-        BuyAsAsked x = new BuyAsAsked();
-        x.sheet(3, 2, 5);
-        x.set(3, 4, 7);
-        due("5: below", x.drop(-1), BAD);
-        due("5: above", x.drop(8), BAD);
-        due("5: missing", x.drop(4), NULL);
-        due("5: how many", x.drop(3), 5);
-        due("5: again", x.drop(3), NULL);
-        due("5: no longer counted", x.count(0), 0);
-        due("5: no longer set", x.set(3, 0, 1), NULL);
-        due("5: anew", x.sheet(3, 2, 5), 5);
-        due("5: anew it is 0", demandOfItem(x, 3, 4), 0);
+    static void p02ItemsAre0AtFirst() {
+        reads(x -> x.sheet(7, 1, 4), 7, 0, 0, 0, 0);
+        reads(x -> x.sheet(0, 0, 60), 0, new int[60]);
     }
 
-    private static void statusOfSheets() {
-        BuyAsAsked x = new BuyAsAsked();
-        x.set(0, 0, 0);
-        due("25: NULL", x.status(), 1);
-        x.set(8, 0, 0);
-        due("25: BAD leaves it", x.status(), 1);
-        x.sheet(0, 2, 2);
-        due("25: none", x.status(), 0);
-        x.set(0, 2, 0);
-        due("25: PLACE", x.status(), 2);
-        x.set(0, 1, 0);
-        due("25: none after set", x.status(), 0);
-        x.sheet(0, 2, -1);
-        due("25: SIZE", x.status(), 4);
-        x.sheet(0, 3, -1);
-        due("25: BAD leaves SIZE", x.status(), 4);
-        x.demand(0);
-        due("25: a call with no SHEET leaves it", x.status(), 4);
-        x.copy(0, 0, 0, 1, 1);
-        due("25: none after copy", x.status(), 0);
-        x.sheet(1, 0, 2);
-        x.copy(0, 0, 1, 0, 1);
-        due("25: STORE", x.status(), 5);
-        x.copy(0, 0, 8, 0, 1);
-        due("25: BAD copy leaves it", x.status(), 5);
-        x.drop(1);
-        due("25: none after drop", x.status(), 0);
-        x.drop(1);
-        due("25: NULL after drop", x.status(), 1);
-        x.drop(9);
-        due("25: BAD drop leaves it", x.status(), 1);
+    static void p02InPlaceOfWhatIsThere() {
+        reads(x -> {
+            lay(x, 1, 2, 5, 6, 7);
+            due(x.sheet(1, 2, 3), 3);
+            due(x.count(0), 1);
+        }, 1, 0, 0, 0);
     }
 
-    private static void statusOfAnswersThatLookLikeRefusals() {
-        BuyAsAsked x = new BuyAsAsked();
-        x.sheet(0, 2, 1);
-        for (int v = -1000016; v <= -1000000; v++) {
-            x.set(0, 1, 0);
-            due("3: " + v, x.set(0, 0, v), v);
-            due("25: after " + v, x.status(), 0);
-        }
+    static void p02ShorterInPlaceOfWhatIsThere() {
+        reads(x -> {
+            lay(x, 1, 2, 5, 6, 7);
+            x.sheet(1, 2, 1);
+        }, 1, 0);
     }
 
-    private static void statusOfDemands() {
+    static void p02LongerAgainBringsNothingBack() {
+        reads(x -> {
+            lay(x, 1, 2, 5, 6, 7);
+            x.sheet(1, 2, 1);
+            x.sheet(1, 2, 3);
+        }, 1, 0, 0, 0);
+    }
+
+    static void p02AnotherLaneInPlaceOfWhatIsThere() {
         BuyAsAsked x = new BuyAsAsked();
+        x.sheet(1, 2, 1);
+        x.sheet(1, 0, 1);
+        due(x.set(1, 0, 128), -128);
+        x.sheet(1, 1, 1);
+        due(x.set(1, 0, 128), 128);
+    }
+
+    static void p02WhatIsRefusedOrFoundLeavesTheItems() {
+        reads(x -> {
+            lay(x, 0, 0, 5, 6);
+            x.sheet(0, 1, -1);
+            x.sheet(0, 3, 1);
+            x.sheet(0, 1, 61);
+        }, 0, 5, 6);
+    }
+
+    // ---- promise 3
+
+    static void p03SheetBelow0IsBad() {
+        Cases.bad((x, n) -> x.set(n, 0, 0), -1, LEAST);
+    }
+
+    static void p03SheetAbove7IsBad() {
+        Cases.bad((x, n) -> x.set(n, 0, 0), 8, 9, MOST);
+    }
+
+    static void p03BadGoesAheadOfFindings() {
+        Cases.bad((x, n) -> x.set(n, -1, 0), -1, 8);
+    }
+
+    static void p03MissingIsNull() {
+        found(x -> x.set(5, 0, 0), NULL);
+        found(x -> x.set(7, 0, 0), NULL);
+    }
+
+    static void p03NullGoesAheadOfPlace() {
+        found(x -> x.set(5, -1, 0), NULL);
+        found(x -> x.set(5, 60, 0), NULL);
+    }
+
+    static void p03BelowTheFirstItemIsPlace() {
+        found(x -> x.set(0, -1, 1), PLACE);
+        found(x -> x.set(2, LEAST, 1), PLACE);
+    }
+
+    static void p03AboveTheLastItemIsPlace() {
+        found(x -> x.set(0, 3, 1), PLACE);
+        found(x -> x.set(2, 60, 1), PLACE);
+        found(x -> x.set(2, MOST, 1), PLACE);
+    }
+
+    static void p03AnEmptySheetHasNoPlace() {
+        found(x -> x.set(3, 0, 1), PLACE);
+    }
+
+    static void p03ThePlacesOfAShorterOneInItsPlace() {
+        BuyAsAsked x = new BuyAsAsked();
+        x.sheet(0, 0, 5);
         x.sheet(0, 0, 2);
-        x.demands(1, 0, 1);
-        due("25: demands, NULL", x.status(), 1);
-        x.demands(0, 0, 1);
-        due("25: demands, none", x.status(), 0);
-        x.demands(0, 1, 2);
-        due("25: demands, PLACE", x.status(), 2);
-        x.demands(0, 0, 0);
-        due("25: demands, BAD leaves it", x.status(), 2);
-        due("25: demand, STATE", x.demand(0), STATE);
-        due("25: demand leaves it", x.status(), 2);
+        due(x.set(0, 1, 4), 4);
+        due(x.set(0, 2, 4), PLACE);
+    }
+
+    static void p03FirstAndLastItem() {
+        reads(x -> {
+            x.sheet(0, 0, 4);
+            due(x.set(0, 0, 8), 8);
+            due(x.set(0, 3, 7), 7);
+        }, 0, 8, 0, 0, 7);
+    }
+
+    static void p03OneSheetLeavesAnotherAsItIs() {
+        reads(x -> {
+            lay(x, 0, 0, 1, 2);
+            lay(x, 1, 0, 3, 4);
+            x.set(0, 1, 5);
+        }, 1, 3, 4);
+    }
+
+    private static void becomes(int lane, int v, int want) {
+        BuyAsAsked x = new BuyAsAsked();
+        x.sheet(6, lane, 2);
+        due(x.set(6, 1, v), want);
+        due(x.status(), 0);
+    }
+
+    static void p03BytesWrapAround() {
+        int[] given = {127, 128, 255, 256, 300, -128, -129, -1, MOST, LEAST, BAD};
+        int[] want = {127, -128, -1, 0, 44, -128, 127, -1, -1, 0, -65};
+        for (int k = 0; k < given.length; k++) {
+            becomes(0, given[k], want[k]);
+        }
+    }
+
+    static void p03ShortsWrapAround() {
+        int[] given = {32767, 32768, 65535, 65536, 70000, -32768, -32769, -1, MOST, LEAST, BAD};
+        int[] want = {32767, -32768, -1, 0, 4464, -32768, 32767, -1, -1, 0, -16961};
+        for (int k = 0; k < given.length; k++) {
+            becomes(1, given[k], want[k]);
+        }
+    }
+
+    static void p03IntsStayWhole() {
+        for (int v : new int[] {MOST, LEAST, 65536, -32769, 0, -1}) {
+            becomes(2, v, v);
+        }
+    }
+
+    static void p03AnIntThatLooksLikeARefusalIsNone() {
+        for (int v = STORE - 1; v <= NONE; v++) {
+            becomes(2, v, v);
+        }
+    }
+
+    // ---- promise 4
+
+    static void p04SheetBelow0IsBad() {
+        Cases.bad((x, n) -> x.copy(n, 0, 0, 0, 1), -1, LEAST);
+        Cases.bad((x, n) -> x.copy(0, 0, n, 0, 1), -1, LEAST);
+    }
+
+    static void p04SheetAbove7IsBad() {
+        Cases.bad((x, n) -> x.copy(n, 0, 0, 0, 1), 8, MOST);
+        Cases.bad((x, n) -> x.copy(0, 0, n, 0, 1), 8, MOST);
+    }
+
+    static void p04BadGoesAheadOfFindings() {
+        Cases.bad((x, n) -> x.copy(5, -1, n, -1, -1), -1, 8);
+        Cases.bad((x, n) -> x.copy(n, -1, 5, -1, -1), -1, 8);
+    }
+
+    static void p04OneIsMissingIsNull() {
+        found(x -> x.copy(5, 0, 0, 0, 1), NULL);
+        found(x -> x.copy(0, 0, 5, 0, 1), NULL);
+    }
+
+    static void p04BothAreMissingIsNull() {
+        found(x -> x.copy(5, 0, 6, 0, 0), NULL);
+        found(x -> x.copy(5, 0, 5, 0, 0), NULL);
+    }
+
+    static void p04NullGoesAheadOfStoreAndPlace() {
+        found(x -> x.copy(1, -1, 5, -1, -1), NULL);
+        found(x -> x.copy(5, -1, 1, -1, -1), NULL);
+    }
+
+    static void p04TwoLanesAreStore() {
+        for (int a = 0; a < 3; a++) {
+            for (int b = 0; b < 3; b++) {
+                int from = a;
+                int to = b;
+                if (from != to) {
+                    found(x -> x.copy(from, 0, to, 0, 1), STORE);
+                }
+            }
+        }
+    }
+
+    static void p04TwoLanesAreStoreForNoItemsToo() {
+        found(x -> x.copy(0, 0, 1, 0, 0), STORE);
+        found(x -> x.copy(1, 2, 3, 0, 0), STORE);
+    }
+
+    static void p04StoreGoesAheadOfPlace() {
+        found(x -> x.copy(0, -1, 1, 0, 1), STORE);
+        found(x -> x.copy(0, 0, 1, 0, -1), STORE);
+        found(x -> x.copy(0, 0, 1, 9, 1), STORE);
+    }
+
+    static void p04BelowNoneIsPlace() {
+        for (int n : new int[] {-1, LEAST}) {
+            found(x -> x.copy(0, n, 4, 0, 1), PLACE);
+            found(x -> x.copy(0, 0, 4, n, 1), PLACE);
+            found(x -> x.copy(0, 1, 4, 1, n), PLACE);
+        }
+    }
+
+    static void p04BeyondTheEndOfAIsPlace() {
+        found(x -> x.copy(0, 0, 4, 0, 4), PLACE);
+        found(x -> x.copy(0, 1, 4, 0, 3), PLACE);
+        found(x -> x.copy(0, 3, 4, 0, 1), PLACE);
+    }
+
+    static void p04BeyondTheEndOfBIsPlace() {
+        found(x -> x.copy(4, 0, 0, 0, 4), PLACE);
+        found(x -> x.copy(4, 0, 0, 1, 3), PLACE);
+        found(x -> x.copy(4, 0, 0, 3, 1), PLACE);
+    }
+
+    static void p04NoItemsBeyondAnEndArePlace() {
+        found(x -> x.copy(0, 4, 4, 0, 0), PLACE);
+        found(x -> x.copy(4, 0, 0, 4, 0), PLACE);
+        found(x -> x.copy(3, 1, 3, 0, 0), PLACE);
+    }
+
+    static void p04FarBeyondAnEndIsPlace() {
+        found(x -> x.copy(0, MOST, 4, 0, 1), PLACE);
+        found(x -> x.copy(0, 0, 4, MOST, 1), PLACE);
+        found(x -> x.copy(0, 0, 4, 0, MOST), PLACE);
+        found(x -> x.copy(0, 1, 4, 1, MOST), PLACE);
+        found(x -> x.copy(0, MOST, 4, MOST, MOST), PLACE);
+    }
+
+    static void p04WhatIsFoundLeavesTheItems() {
+        reads(x -> {
+            lay(x, 0, 0, 1, 2, 3);
+            lay(x, 1, 0, 4, 5);
+            x.copy(0, 0, 1, 0, 3);
+            x.copy(0, 0, 1, 1, 2);
+        }, 1, 4, 5);
+    }
+
+    static void p04NoItemsAtTheEnds() {
+        BuyAsAsked x = withSheets();
+        due(x.copy(0, 0, 4, 0, 0), 0);
+        due(x.copy(0, 3, 4, 4, 0), 0);
+        due(x.copy(2, 60, 3, 0, 0), 0);
+        due(x.copy(3, 0, 3, 0, 0), 0);
+        due(x.status(), 0);
+    }
+
+    static void p04UpToBothEnds() {
+        reads(x -> {
+            lay(x, 0, 1, 1, 2, 3);
+            lay(x, 1, 1, 4, 5, 6, 7);
+            due(x.copy(0, 1, 1, 2, 2), 2);
+        }, 1, 4, 5, 2, 3);
+    }
+
+    static void p04TheOtherStaysAsItIs() {
+        reads(x -> {
+            lay(x, 0, 1, 1, 2, 3);
+            lay(x, 1, 1, 4, 5, 6, 7);
+            due(x.copy(0, 0, 1, 0, 3), 3);
+        }, 0, 1, 2, 3);
+    }
+
+    static void p04AllSixty() {
+        BuyAsAsked x = new BuyAsAsked();
+        x.offer(9, 1 << 6);
+        x.sheet(0, 2, 60);
+        x.sheet(1, 2, 60);
+        x.set(0, 59, 6);
+        due(x.copy(0, 0, 1, 0, 60), 60);
+        due(x.demands(1, 59, 1), 9);
+    }
+
+    static void p04OnwardsOverItself() {
+        reads(x -> {
+            lay(x, 0, 0, 0, 1, 2, 3, 4);
+            due(x.copy(0, 0, 0, 1, 4), 4);
+        }, 0, 0, 0, 1, 2, 3);
+    }
+
+    static void p04BackwardsOverItself() {
+        reads(x -> {
+            lay(x, 0, 0, 0, 1, 2, 3, 4);
+            due(x.copy(0, 1, 0, 0, 4), 4);
+        }, 0, 1, 2, 3, 4, 4);
+    }
+
+    static void p04AllOntoItself() {
+        reads(x -> {
+            lay(x, 0, 2, 4, 3, 2, 1);
+            due(x.copy(0, 0, 0, 0, 4), 4);
+        }, 0, 4, 3, 2, 1);
+    }
+
+    // ---- promise 5
+
+    static void p05SheetBelow0IsBad() {
+        Cases.bad(BuyAsAsked::drop, -1, LEAST);
+    }
+
+    static void p05SheetAbove7IsBad() {
+        Cases.bad(BuyAsAsked::drop, 8, 9, MOST);
+    }
+
+    static void p05MissingIsNull() {
+        found(x -> x.drop(5), NULL);
+        found(x -> x.drop(7), NULL);
+    }
+
+    static void p05TwiceIsNull() {
+        BuyAsAsked x = withSheets();
+        due(x.drop(0), 3);
+        due(x.drop(0), NULL);
+        due(x.status(), 1);
+    }
+
+    static void p05HowManyItemsItHad() {
+        BuyAsAsked x = withSheets();
+        due(x.drop(3), 0);
+        due(x.drop(2), 60);
+        due(x.drop(1), 2);
+    }
+
+    static void p05FirstAndLastSheet() {
+        BuyAsAsked x = new BuyAsAsked();
+        x.sheet(0, 0, 4);
+        x.sheet(7, 0, 6);
+        due(x.drop(7), 6);
+        due(x.count(0), 1);
+        due(x.drop(0), 4);
+        due(x.count(0), 0);
+    }
+
+    static void p05ItIsMissingForAllCalls() {
+        BuyAsAsked x = withSheets();
+        x.drop(0);
+        due(x.set(0, 0, 1), NULL);
+        due(x.copy(0, 0, 4, 0, 0), NULL);
+        due(x.copy(4, 0, 0, 0, 0), NULL);
+        due(x.demands(0, 0, 1), NULL);
+        due(x.count(0), 4);
+    }
+
+    static void p05AnewItIs0() {
+        reads(x -> {
+            lay(x, 3, 2, 7, 7);
+            x.drop(3);
+            due(x.sheet(3, 2, 2), 2);
+        }, 3, 0, 0);
     }
 }
