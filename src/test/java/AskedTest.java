@@ -311,6 +311,17 @@ public final class AskedTest {
         }
     }
 
+    static void p24TheFirstSetAndTheLastAreNear() {
+        BuyAsAsked x = new BuyAsAsked();
+        for (int set = 0; set < 10; set++) {
+            x.offer(set == 4 ? 5 : 10, set % 9 == 0 || set == 4 ? 1 : 2);
+        }
+        x.demand(0);
+        due(x.kind(0), 2);
+        due(x.kind(9), 2);
+        due(x.count(3), 2);
+    }
+
     static void p24NearOnesAsTheyAreTold() {
         due(filled(5, 10).count(3), 1);
         due(filled(5, 11).count(3), 0);

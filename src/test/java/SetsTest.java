@@ -189,6 +189,15 @@ public final class SetsTest {
         due(x.covers(4), 3);
     }
 
+    static void p07WhatIsBoughtStays() {
+        BuyAsAsked x = with(5, 3, 6, 12);
+        x.demand(0);
+        x.demand(2);
+        due(x.demand(1), 0);
+        due(x.demand(3), 0);
+        due(x.covers(4), 15);
+    }
+
     static void p07TheFirstThatIsTightIsBoughtAlone() {
         BuyAsAsked x = with(5, 1, 4, 1, 6, 1);
         due(x.demand(0), 4);

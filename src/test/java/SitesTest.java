@@ -100,6 +100,17 @@ public final class SitesTest {
         Cases.refused(Cases::inUse, x -> x.way(2, 1, 7), STATE);
     }
 
+    static void p17AllThatAreBoughtAreState() {
+        BuyAsAsked x = with(4, 0, 1, 4, 0, 2, 5, 0, 3, 6);
+        for (int s = 0; s < 4; s++) {
+            x.call(s);
+        }
+        for (int s = 1; s < 4; s++) {
+            due(x.way(0, s, 9), STATE);
+            due(x.way(s, 0, 9), STATE);
+        }
+    }
+
     static void p17BadGoesAheadOfState() {
         Cases.refused(Cases::inUse, x -> x.way(0, 1, 0), BAD);
         Cases.refused(Cases::inUse, x -> x.way(1, 0, 1001), BAD);
@@ -274,6 +285,22 @@ public final class SitesTest {
         due(y.joins(4), 9);
     }
 
+    static void p18LeastCostGoesAheadOfNineWays() {
+        BuyAsAsked x = withARow(1);
+        x.way(0, 9, 10);
+        x.call(0);
+        due(x.call(9), 9);
+        due(x.joins(4), 9);
+    }
+
+    static void p18OnlyOverWaysThatAreThere() {
+        BuyAsAsked x = with(4, 3, 2, 2, 2, 0, 2, 1, 0, 4);
+        x.call(0);
+        due(x.call(3), 4);
+        due(x.joins(3), bits(0, 2, 3));
+        due(x.way(3, 1, 9), 0);
+    }
+
     static void p18LeastSitesFromTheCalledOneOn() {
         BuyAsAsked x = with(8, 7, 3, 2, 7, 2, 2, 3, 0, 2, 2, 6, 2, 2, 5, 2, 0, 1, 2, 6, 1, 2, 5, 1, 2);
         x.call(1);
@@ -396,6 +423,18 @@ public final class SitesTest {
         due(x.joins(2), 1023);
         due(x.joins(3), 1023);
         due(x.joins(4), 9);
+    }
+
+    static void p19BestFromTheLastSiteToTheFirst() {
+        BuyAsAsked x = withARow(1000);
+        x.call(9);
+        x.call(0);
+        due(x.joins(1), 9000);
+        BuyAsAsked y = withARow(1000);
+        for (int s = 9; s >= 0; s--) {
+            y.call(s);
+        }
+        due(y.joins(1), 9000);
     }
 
     static void p19BestFollowsAWayThatComesLater() {
